@@ -464,9 +464,9 @@ public final class CandleRooms {
             }
         }
 
-        /** The beats that the candle burns if it is neither trimmed nor blown out. */
+        /** The beats that the candle would burn if it were neither trimmed nor blown out. */
         int beatsUntrimmed() {
-            int left = burns ? length : 0;
+            int left = length;
             int thickness = wick;
             for (int beat = 0; beat < LONGEST; beat++) {
                 if (left <= 0) {

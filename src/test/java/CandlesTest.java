@@ -89,6 +89,13 @@ public final class CandlesTest {
         x.pass(7);
         Check.badState("light a burnt one", x, () -> x.light(2, 3));
         Check.same("light with the length that is left", 10, x.light(4, 3));
+        CandleRooms y = new CandleRooms();
+        y.strike(0);
+        y.pass(5);
+        y.draught(0, 1);
+        y.pass(1);
+        y.strike(1);
+        Check.same("light the last bit of a candle", 1, y.light(0, 1));
     }
 
     private static void promise03LightThroughEachDoor() {

@@ -7,6 +7,7 @@ public final class ForecastsTest {
         promise20LastsInADraught();
         promise21NextForgotten();
         promise21NextForgottenInTheLight();
+        promise21NextForgottenByRestsOfCandles();
         promise22Carried();
         promise22CarriedBothWays();
         promise22CarriedByBurntCandles();
@@ -38,6 +39,13 @@ public final class ForecastsTest {
         x.read(3);
         Check.same("trimmed it lasts", 7, x.lasts(0));
         Check.same("another room", 0, x.lasts(1));
+        CandleRooms y = new CandleRooms();
+        y.strike(0);
+        y.keep(0, 3);
+        y.read(3);
+        y.read(3);
+        Check.same("to the length 0 and not below", 5, y.lasts(0));
+        Check.same("and what it saves", 3, y.saves(0));
     }
 
     private static void promise20LastsInADraught() {
@@ -112,6 +120,29 @@ public final class ForecastsTest {
         Check.same("at the lowest setting", 1, z.nextForgotten());
     }
 
+    /** A thing that has been dark for 5 beats, and the rest of a candle that is struck again. */
+    private static void promise21NextForgottenByRestsOfCandles() {
+        int[] lengths = {9, 8, 7, 5, 3, 1};
+        int[] due = {17, 16, 15, 14, 13, 7};
+        for (int beats = 0; beats < 6; beats++) {
+            CandleRooms x = new CandleRooms();
+            x.keep(0, 1);
+            x.strike(0);
+            if (beats > 0) {
+                x.pass(beats);
+            }
+            x.draught(0, 1);
+            x.pass(5);
+            Check.same("beats in the dark", 5, x.thing(1, 1));
+            Check.same("it can be struck", 1, x.carried(0));
+            Check.same("struck again", lengths[beats], x.strike(0));
+            Check.same("lasts", 6 - beats, x.lasts(0));
+            Check.same("next forgotten", due[beats], x.nextForgotten());
+            Check.same("not before", 0, x.pass(due[beats] - 1));
+            Check.same("but then", 1, x.pass(1));
+        }
+    }
+
     private static void promise22Carried() {
         CandleRooms x = new CandleRooms();
         for (int room : NO_ROOMS) {
@@ -177,6 +208,9 @@ public final class ForecastsTest {
         Check.same("the only one", 4, x.needy());
         x.keep(2, 2);
         Check.same("the lowest", 2, x.needy());
+        x.keep(0, 9);
+        Check.same("the room 0", 0, x.needy());
+        x.undo();
         x.keep(4, 3);
         Check.same("most things", 4, x.needy());
         x.strike(2);
@@ -232,8 +266,21 @@ public final class ForecastsTest {
         Check.sameShare("forgotten", 1.0, x.lit());
     }
 
-    /** The digest by the document's words, out of the other calls. */
+    /** The key and the beats in the dark of each thing, by room and place. */
+    private static int[][][] thingsOf(CandleRooms x) {
+        int[][][] things = new int[6][4][];
+        for (int key = 0; key < 100; key++) {
+            int room = x.thing(key, 0);
+            if (room != -1) {
+                things[room][x.thing(key, 2)] = new int[] {key, x.thing(key, 1)};
+            }
+        }
+        return things;
+    }
+
+    /** The digest by the document's words, out of the other calls: some 240 of them. */
     private static long digestOf(CandleRooms x, String buffer) {
+        int[][][] things = thingsOf(x);
         long hash = 3499;
         for (int what = 0; what < 12; what++) {
             hash = 31 * hash + x.count(what);
@@ -243,11 +290,8 @@ public final class ForecastsTest {
                 hash = 31 * hash + x.room(room, what);
             }
             for (int place = 0; place < x.room(room, 4); place++) {
-                for (int key = 0; key < 100; key++) {
-                    if (x.thing(key, 0) == room && x.thing(key, 2) == place) {
-                        hash = 31 * (31 * hash + key) + x.thing(key, 1);
-                    }
-                }
+                hash = 31 * hash + things[room][place][0];
+                hash = 31 * hash + things[room][place][1];
             }
             hash = 31 * hash + x.lasts(room);
             hash = 31 * hash + x.carried(room);
@@ -281,15 +325,18 @@ public final class ForecastsTest {
             }
         }
         for (int lit = 1; lit <= 6; lit++) {
-            CandleRooms x = new CandleRooms();
-            for (int key = 0; key < 24; key++) {
-                x.keep(key / 4, key);
+            for (int beats = 0; beats < 20; beats += 3) {
+                CandleRooms x = new CandleRooms();
+                for (int key = 0; key < 24; key++) {
+                    x.keep(key / 4, key);
+                }
+                Check.play(x, "0*,1<,2<,3<,4<,5<".substring(0, 3 * lit - 1));
+                x.draught(1, 3);
+                if (beats > 0) {
+                    x.pass(beats);
+                }
+                Check.same("digest", digestOf(x, ""), x.digest());
             }
-            Check.play(x, "0*,1<,2<,3<,4<,5<".substring(0, 3 * lit - 1));
-            Check.same("digest", digestOf(x, ""), x.digest());
-            x.draught(1, 3);
-            x.pass(2);
-            Check.same("digest", digestOf(x, ""), x.digest());
         }
     }
 }

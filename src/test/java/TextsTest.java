@@ -12,6 +12,7 @@ public final class TextsTest {
         promise15PlayIsOneCall();
         promise16Undo();
         promise16UndoOfAll();
+        promise16UndoOfForgetting();
         Check.end("TextsTest");
     }
 
@@ -198,6 +199,26 @@ public final class TextsTest {
         Check.same("the setting", 20, x.count(10));
         Check.same("undo behind undo", 0, x.undo());
         Check.same("the setting", 3, x.count(10));
+    }
+
+    private static void promise16UndoOfForgetting() {
+        CandleRooms x = new CandleRooms();
+        x.keep(3, 1);
+        x.pass(2);
+        x.keep(3, 2);
+        x.keep(3, 3);
+        x.pass(10);
+        Check.same("forgotten", 2, x.keep(0, 1) + x.count(4));
+        Check.same("the first one is gone", 2, x.room(3, 7));
+        x.undo();
+        x.undo();
+        int[] beats = {2, 0, 0};
+        for (int place = 0; place < 3; place++) {
+            Check.same("its room again", 3, x.thing(place + 1, 0));
+            Check.same("its beats again", beats[place], x.thing(place + 1, 1));
+            Check.same("its place again", place, x.thing(place + 1, 2));
+        }
+        Check.same("forgotten so far", 0, x.count(4));
     }
 
     /** Each undoable method, one after the other, is taken back in full. */

@@ -156,6 +156,7 @@ public final class ThingsTest {
         Check.same("the first key now", 2, x.room(0, 7));
         Check.same("a new one comes last", 3, x.keep(0, 9));
         Check.same("its place", 2, x.thing(9, 2));
+        Check.same("its beats are its own", 0, x.thing(9, 1));
         Check.same("not yet", 0, x.pass(1));
         Check.same("three at once", 3, x.pass(1));
         Check.same("forgotten so far", 4, x.count(4));
