@@ -1,3 +1,6 @@
+import java.lang.reflect.InvocationTargetException;
+import java.lang.reflect.Method;
+import java.util.Arrays;
 import java.util.Random;
 
 /** Promises 1 to 26 in long mixed runs of calls, each answer compared with the model's. */
@@ -5,83 +8,37 @@ public final class RandomRunsTest {
     private static final int RUNS = 600;
     // The promises end behind 512 calls, and each step is followed by a digest.
     private static final int CALLS = 256;
-    private static final int[] ODD = {-1, 6, 7, 60, 61, 100, 101, -7, Integer.MIN_VALUE,
-        Integer.MAX_VALUE};
+    private static final int[] ODD = {-7, -1, 0, 3, 6, 7, 8, 12, 32, 51, 60, 61, 100, 127,
+        Integer.MIN_VALUE, Integer.MAX_VALUE};
 
-    /** One call of the face, made on the class and on the model. */
+    /** One call of the face, made by its name on the class and on the model alike. */
     private static final class Step {
-        final int method;
-        final int a;
-        final int b;
+        final String method;
+        final Object[] arguments;
 
-        Step(int method, int a, int b) {
+        Step(String method, Object... arguments) {
             this.method = method;
-            this.a = a;
-            this.b = b;
+            this.arguments = arguments;
         }
 
-        long make(CandleRooms x) {
-            return switch (method) {
-                case 0 -> x.strike(a);
-                case 1 -> x.light(a, b);
-                case 2 -> x.fresh(a);
-                case 3 -> x.door(a, b % 2 == 0);
-                case 4 -> x.shield(a, b % 2 == 0);
-                case 5 -> x.draught(a, b);
-                case 6 -> x.set(a);
-                case 7 -> x.keep(a, b);
-                case 8 -> x.read(a);
-                case 9 -> x.pass(a);
-                case 10 -> x.append(a);
-                case 11 -> x.clearBuffer();
-                case 12 -> x.firstError();
-                case 13 -> x.play();
-                case 14 -> x.undo();
-                case 15 -> x.room(a, b);
-                case 16 -> x.thing(a, b);
-                case 17 -> x.count(a);
-                case 18 -> x.lasts(a);
-                case 19 -> x.nextForgotten();
-                case 20 -> x.carried(a);
-                case 21 -> x.needy();
-                case 22 -> x.saves(a);
-                case 23 -> Double.doubleToRawLongBits(x.lit());
-                default -> x.digest();
-            };
-        }
-
-        long make(Model x) {
-            return switch (method) {
-                case 0 -> x.strike(a);
-                case 1 -> x.light(a, b);
-                case 2 -> x.fresh(a);
-                case 3 -> x.door(a, b % 2 == 0);
-                case 4 -> x.shield(a, b % 2 == 0);
-                case 5 -> x.draught(a, b);
-                case 6 -> x.set(a);
-                case 7 -> x.keep(a, b);
-                case 8 -> x.read(a);
-                case 9 -> x.pass(a);
-                case 10 -> x.append(a);
-                case 11 -> x.clearBuffer();
-                case 12 -> x.firstError();
-                case 13 -> x.play();
-                case 14 -> x.undo();
-                case 15 -> x.room(a, b);
-                case 16 -> x.thing(a, b);
-                case 17 -> x.count(a);
-                case 18 -> x.lasts(a);
-                case 19 -> x.nextForgotten();
-                case 20 -> x.carried(a);
-                case 21 -> x.needy();
-                case 22 -> x.saves(a);
-                case 23 -> Double.doubleToRawLongBits(x.lit());
-                default -> x.digest();
-            };
+        /** The answer as a text, or the name of the exception's class. */
+        String answerOf(Object object) {
+            Class<?>[] types = new Class<?>[arguments.length];
+            for (int place = 0; place < types.length; place++) {
+                types[place] = arguments[place] instanceof Boolean ? boolean.class : int.class;
+            }
+            try {
+                Method called = object.getClass().getDeclaredMethod(method, types);
+                return String.valueOf(called.invoke(object, arguments));
+            } catch (InvocationTargetException e) {
+                return e.getCause().getClass().getName();
+            } catch (ReflectiveOperationException e) {
+                throw new IllegalStateException(e);
+            }
         }
 
         String told() {
-            return "method " + method + " with " + a + ", " + b;
+            return method + Arrays.toString(arguments);
         }
     }
 
@@ -106,8 +63,8 @@ public final class RandomRunsTest {
         for (int call = 1; call <= CALLS; call++) {
             Step step = nextStep();
             String told = name + ", call " + call + ", " + step.told();
-            String due = answer(step, false);
-            String got = answer(step, true);
+            String due = step.answerOf(model);
+            String got = step.answerOf(x);
             if (!due.equals(got)) {
                 Check.fail(told + ": due is " + due + ", answered is " + got);
                 return;
@@ -117,14 +74,6 @@ public final class RandomRunsTest {
                 return;
             }
             Check.same(told, 0, 0);
-        }
-    }
-
-    private String answer(Step step, boolean ofClass) {
-        try {
-            return Long.toString(ofClass ? step.make(x) : step.make(model));
-        } catch (RuntimeException e) {
-            return e.getClass().getName();
         }
     }
 
@@ -157,7 +106,7 @@ public final class RandomRunsTest {
         if (!toType.isEmpty()) {
             int code = toType.charAt(0);
             toType = toType.substring(1);
-            return new Step(10, code, 0);
+            return new Step("append", code);
         }
         int kind = random.nextInt(100);
         if (kind < 62) {
@@ -165,57 +114,49 @@ public final class RandomRunsTest {
         }
         if (kind < 66) {
             toType = deeds();
-            return new Step(11, 0, 0);
+            return new Step("clearBuffer");
         }
         if (kind < 72) {
-            return new Step(13, 0, 0);
+            return new Step("play");
         }
         if (kind < 76) {
-            return new Step(14, 0, 0);
+            return new Step("undo");
         }
         if (kind < 78) {
-            return new Step(10, number(33, 126), 0);
+            return new Step("append", number(33, 126));
         }
         return nextLook();
     }
 
     private Step nextDeed() {
         int room = room();
-        switch (random.nextInt(14)) {
-            case 0:
-                return new Step(0, room, 0);
-            case 1:
-            case 2:
-            case 3:
-                return new Step(1, room, chance(90) ? beside(room) : room());
-            case 4:
-                return new Step(2, room, 0);
-            case 5:
-                return new Step(3, room, random.nextInt(3));
-            case 6:
-                return new Step(4, room, 1 + random.nextInt(3));
-            case 7:
-                return new Step(5, room, number(1, 6));
-            case 8:
-                return new Step(6, chance(50) ? number(1, 10) : number(1, 50), 0);
-            case 9:
-            case 10:
-                return new Step(7, room, key());
-            case 11:
-            case 12:
-                return new Step(8, key(), 0);
-            default:
-                return new Step(9, chance(85) ? number(1, 3) : number(1, 60), 0);
-        }
+        return switch (random.nextInt(14)) {
+            case 0 -> new Step("strike", room);
+            case 1, 2, 3 -> new Step("light", room, chance(90) ? beside(room) : room());
+            case 4 -> new Step("fresh", room);
+            case 5 -> new Step("door", room, chance(65));
+            case 6 -> new Step("shield", room, chance(35));
+            case 7 -> new Step("draught", room, number(1, 6));
+            case 8 -> new Step("set", number(1, chance(50) ? 10 : 50));
+            case 9, 10 -> new Step("keep", room, key());
+            case 11, 12 -> new Step("read", key());
+            default -> new Step("pass", number(1, chance(85) ? 3 : 60));
+        };
     }
 
     private Step nextLook() {
-        int method = new int[] {12, 15, 16, 17, 18, 19, 20, 21, 22, 23, 24}[random.nextInt(11)];
-        return switch (method) {
-            case 15 -> new Step(method, room(), number(0, 7));
-            case 16 -> new Step(method, key(), number(0, 2));
-            case 17 -> new Step(method, number(0, 11), 0);
-            default -> new Step(method, room(), 0);
+        return switch (random.nextInt(11)) {
+            case 0 -> new Step("firstError");
+            case 1 -> new Step("room", room(), number(0, 7));
+            case 2 -> new Step("thing", key(), number(0, 2));
+            case 3 -> new Step("count", number(0, 11));
+            case 4 -> new Step("lasts", room());
+            case 5 -> new Step("nextForgotten");
+            case 6 -> new Step("carried", room());
+            case 7 -> new Step("needy");
+            case 8 -> new Step("saves", room());
+            case 9 -> new Step("lit");
+            default -> new Step("digest");
         };
     }
 
