@@ -384,7 +384,7 @@ public final class CandleRooms {
             doorIsOpen = true;
         }
 
-        void copyFrom(Room other) {
+        void copyRoom(Room other) {
             System.arraycopy(other.keys, 0, keys, 0, PLACES);
             System.arraycopy(other.dark, 0, dark, 0, PLACES);
             things = other.things;
@@ -434,7 +434,7 @@ public final class CandleRooms {
             return NONE;
         }
 
-        void putThing(int key) {
+        void addThing(int key) {
             if (things < PLACES) {
                 keys[things] = key;
                 dark[things] = 0;
@@ -442,7 +442,7 @@ public final class CandleRooms {
             }
         }
 
-        void putNewCandle() {
+        void takeNewCandle() {
             length = NEW_LENGTH;
             wick = 0;
             burns = false;
@@ -500,7 +500,7 @@ public final class CandleRooms {
         }
 
         /** The beats until the first of its things is forgotten, if it stays lit for beatsLit. */
-        int beatsToForgetting(int beatsLit, int setting) {
+        int beatsToFirstForgotten(int beatsLit, int setting) {
             // The beat in which the candle goes out is the first dark one, and all before it set
             // the things back to 0; with beatsLit 1 there is none before it.
             if (beatsLit > 1) {
@@ -540,7 +540,7 @@ public final class CandleRooms {
 
         void copyFrom(Store other) {
             for (int room = 0; room < ROOMS; room++) {
-                rooms[room].copyFrom(other.rooms[room]);
+                rooms[room].copyRoom(other.rooms[room]);
             }
             beats = other.beats;
             box = other.box;
@@ -654,7 +654,7 @@ public final class CandleRooms {
         }
 
         int putNewCandle(int room) {
-            roomAt(room).putNewCandle();
+            roomAt(room).takeNewCandle();
             box--;
             return box;
         }
@@ -673,7 +673,7 @@ public final class CandleRooms {
 
         int putThing(int room, int key) {
             Room keeper = roomAt(room);
-            keeper.putThing(key);
+            keeper.addThing(key);
             return keeper.things;
         }
 
@@ -771,7 +771,7 @@ public final class CandleRooms {
             int next = NONE;
             for (int room = 0; room < ROOMS; room++) {
                 if (rooms[room].things > 0) {
-                    int beatsOfRoom = rooms[room].beatsToForgetting(beatsLit(room), setting);
+                    int beatsOfRoom = rooms[room].beatsToFirstForgotten(beatsLit(room), setting);
                     next = next == NONE ? beatsOfRoom : Math.min(next, beatsOfRoom);
                 }
             }
