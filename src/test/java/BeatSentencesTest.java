@@ -27,7 +27,7 @@ public final class BeatSentencesTest {
         Check.end("BeatSentencesTest");
     }
 
-    /** "shorter by 1, and by 1 more, if its wick is 3 or more, and by 1 more, if it is 6 or more". */
+    /** "and by 1 more, if its wick is 3 or more, and by 1 more, if it is 6 or more". */
     private static void shorterByTheWick() {
         int[] by = {1, 1, 1, 2, 2, 2, 3, 3, 3};
         for (int wick = 0; wick < 9; wick++) {
@@ -164,7 +164,8 @@ public final class BeatSentencesTest {
                     CandleRooms x = Stores.allLit();
                     x.door(door, false);
                     int due = Math.min(strength, Stores.steps(room, door) + 1);
-                    blows("from " + room + ", " + strength + ", door " + door, x, room, strength, due);
+                    String what = "from " + room + ", " + strength + ", door " + door;
+                    blows(what, x, room, strength, due);
                 }
             }
         }

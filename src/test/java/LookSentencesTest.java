@@ -362,10 +362,7 @@ public final class LookSentencesTest {
                 }
                 x.door(door, false);
                 for (int room = 0; room < 6; room++) {
-                    int up = Stores.steps(from, room);
-                    boolean upIsShut = Stores.steps(from, door) < up;
-                    int due = room == from ? 0 : upIsShut ? 6 - up : up;
-                    due = upIsShut ? due : Math.min(due, other(from, room, door));
+                    int due = Math.min(wayUp(from, room, door), wayUp(room, from, door));
                     Check.same("from " + from + " to " + room + ", door " + door, due,
                         x.carried(room));
                 }
@@ -373,10 +370,10 @@ public final class LookSentencesTest {
         }
     }
 
-    /** The way downwards from a room to another one, long if the shut door is on it. */
-    private static int other(int from, int room, int door) {
-        int down = Stores.steps(room, from);
-        return Stores.steps(room, door) < down ? 9 : down;
+    /** The steps upwards from a room to another one, too many if the shut door is between. */
+    private static int wayUp(int from, int to, int door) {
+        int steps = Stores.steps(from, to);
+        return Stores.steps(from, door) < steps ? 7 : steps;
     }
 
     /** "all of them with lengths above 0". */

@@ -316,7 +316,7 @@ public final class RoomSentencesTest {
         Check.same("the twelfth again", 0, x.fresh(3));
     }
 
-    /** "lit from one that burns in a room beside it, through an open door": all doors, all rooms. */
+    /** "from one that burns in a room beside it, through an open door": all doors, all rooms. */
     private static void lightFromBesideThroughAnOpenDoor() {
         for (int doors = 0; doors < 64; doors++) {
             for (int from = 0; from < 6; from++) {
@@ -450,6 +450,7 @@ public final class RoomSentencesTest {
             x.keep(3, 1);
             x.pass(beats);
             Check.same("its room", 3, x.read(1));
+            Check.same("all three beats pass", beats + 3, x.count(0));
             Check.same("forgotten by it", beats >= 9 ? 1 : 0, x.count(4));
             Check.same("its beats", beats >= 9 ? -1 : beats + 3, x.thing(1, 1));
             Check.same("it is a reading", 1, x.count(5));

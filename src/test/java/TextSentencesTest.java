@@ -26,6 +26,7 @@ public final class TextSentencesTest {
         promise15UpToTheFirstNotPossible();
         promise15EachRefusal();
         promise15ClearsTheBuffer();
+        promise15NothingOfAnOlderText();
         promise15FullBuffer();
         Check.end("TextSentencesTest");
     }
@@ -305,7 +306,8 @@ public final class TextSentencesTest {
 
     /** "up to the first one that is not possible". */
     private static void promise15UpToTheFirstNotPossible() {
-        String[] texts = {"0*", "0*,0+1", "0*,0*,0+1", "0<,0+1", "0*,1<,2<,2<,0+1", "0*,0+1,0+1,1<"};
+        String[] texts = {"0*", "0*,0+1", "0*,0*,0+1", "0<,0+1", "0*,1<,2<,2<,0+1",
+            "0*,0+1,0+1,1<"};
         int[] done = {1, 2, 1, 0, 3, 2};
         int[] things = {0, 1, 0, 0, 0, 1};
         int[] burn = {1, 1, 1, 0, 3, 1};
@@ -351,6 +353,22 @@ public final class TextSentencesTest {
         Check.same("one state more", 2, x.count(11));
         x.undo();
         Check.same("undo brings no text back", 0, x.clearBuffer());
+    }
+
+    /** Nothing of a longer text that was there before is read. */
+    private static void promise15NothingOfAnOlderText() {
+        CandleRooms x = new CandleRooms();
+        Check.same("two digits", 1, Check.play(x, "0+12"));
+        Check.same("one digit", 1, Check.play(x, "0+3"));
+        Check.same("its key", 1, x.thing(3, 2));
+        Check.type(x, "4+77,5+5");
+        x.clearBuffer();
+        Check.same("a digit of the strength", 1, Check.play(x, "4b2"));
+        Check.same("the strength", 2, x.count(9));
+        Check.type(x, "4+");
+        Check.same("no digit yet", 2, x.firstError());
+        Check.badArgument("no digit yet", x, () -> x.play());
+        Check.same("no other thing", 2, x.count(3));
     }
 
     private static void promise15FullBuffer() {

@@ -6,6 +6,7 @@ public final class UndoSentencesTest {
         theOtherCallsSaveNothing();
         refusedCallsSaveNothing();
         allIsSaved();
+        thingsAreSaved();
         whatIsCountedIsSaved();
         theBufferIsNotSaved();
         theSavedStatesAreNotSaved();
@@ -137,6 +138,33 @@ public final class UndoSentencesTest {
             Check.same("ahead of call " + number, before, x.digest());
             number++;
         }
+    }
+
+    /** "all": things that were forgotten, with their keys, beats and places. */
+    private static void thingsAreSaved() {
+        CandleRooms x = new CandleRooms();
+        for (int key = 4; key >= 1; key--) {
+            x.keep(5, key);
+            x.pass(1);
+        }
+        long before = x.digest();
+        Check.same("the first two are forgotten", 2, x.pass(9));
+        x.keep(5, 99);
+        Check.same("the third one is", 1, x.pass(1));
+        for (int undone = 0; undone < 3; undone++) {
+            x.undo();
+        }
+        for (int key = 4; key >= 1; key--) {
+            Check.same("its room again", 5, x.thing(key, 0));
+            Check.same("its beats again", key, x.thing(key, 1));
+            Check.same("its place again", 4 - key, x.thing(key, 2));
+        }
+        Check.same("the other one never came", -1, x.thing(99, 0));
+        // Six states were saved ahead of the three calls; three of them were dropped.
+        for (int calls = 0; calls < 3; calls++) {
+            x.set(12);
+        }
+        Check.same("as before", before, x.digest());
     }
 
     /** "also what is counted so far". */
